@@ -837,34 +837,32 @@ public final class FogTailors {
         int inOrder(Told told, int set, int k) {
             int open = set;
             int cut = 0;
-            int sewn = 0;
             for (int place = 0; place < MOST_CLIENTS; place++) {
-                int c = lowestInTime(told, open, cut, sewn, soonest[set]);
+                int c = lowestInTime(told, open, cut, soonest[set]);
                 if (c == NONE || place == k) {
                     return c;
                 }
                 open &= ~(1 << c);
                 cut += told.needs[c];
-                sewn = Math.max(cut, sewn) + told.sewing[c];
             }
             return NONE;
         }
 
-        private int lowestInTime(Told told, int open, int cut, int sewn, int end) {
+        private int lowestInTime(Told told, int open, int cut, int end) {
             for (int c = 0; c < clients; c++) {
-                if ((open >> c & 1) == 1 && endBehind(told, open, cut, sewn, c) <= end) {
+                if ((open >> c & 1) == 1 && cut + told.needs[c] + leastBehind(told, open, c) <= end) {
                     return c;
                 }
             }
             return NONE;
         }
 
-        /** When all open ones can be done with c as the next: held up by the sewing so far or by their own cutting. */
-        private int endBehind(Told told, int open, int cut, int sewn, int c) {
-            int rest = open & ~(1 << c);
-            int cutThen = cut + told.needs[c];
-            int sewnThen = Math.max(cutThen, sewn) + told.sewing[c];
-            return Math.max(sewnThen + told.sewingOf(rest), cutThen + soonest[rest]);
+        /**
+         * How much time is needed once c, the next of the open ones, is cut: all their sewing, and the ROUND of the others.
+         * What is still being sewn then was counted when those ahead were chosen.
+         */
+        private int leastBehind(Told told, int open, int c) {
+            return Math.max(told.sewingOf(open), soonest[open & ~(1 << c)]);
         }
 
         /** The DAWN that PLAN tells a CLIENT; NONE. */

@@ -6,6 +6,7 @@ final class MarshTest {
         clear();
         marshReads();
         marshFaults();
+        marshOfAFullText();
         marshRefusedChangesNothing();
         marshTellsAllAnew();
         ofDawn();
@@ -148,6 +149,27 @@ final class MarshTest {
         fault("d1-0 1;", 2);
         fault("" + (char) 255, 0);
         fault("d" + (char) 0, 1);
+    }
+
+    private static String filled(String text, char last) {
+        StringBuilder b = new StringBuilder(text);
+        while (b.length() < 119) {
+            b.append(' ');
+        }
+        return b.append(last).toString();
+    }
+
+    private static void marshOfAFullText() {
+        Check.due("120 blanks", Check.marshOf(filled("", ' ')), 0);
+        Check.due("the last is ;", Check.marshOf(filled("d9 1 9;t50", ';')), 2);
+        fault(filled("d9 1 9;t50", ' '), 120);
+        fault(filled("d9 1 9;t", '5'), 119);
+        fault(filled("d9 1", '9'), 120);
+        fault(filled("d9 1 9;", 'd'), 120);
+        fault(filled("d9 1 9;", 'x'), 119);
+        Check.due("full of items", Check.marshOf(
+            "d40 2 60;d40 2 60;d40 2 60;d40 2 60;c5 12 3 30;c5 12 3 30;c5 12 3 30;c5 12 3 30;c5 12 3 30;c5 12 3 30;t99;k30; "), 12);
+        fault("d40 2 60;d40 2 60;d40 2 60;d40 2 60;c5 12 3 30;c5 12 3 30;c5 12 3 30;c5 12 3 30;c5 12 3 30;c5 12 3 30;t99;k30; ;", 111);
     }
 
     private static void marshRefusedChangesNothing() {
