@@ -1,4 +1,4 @@
-/** No call ever throws, whatever its numbers are and whatever was called ahead of it; and a refusal changes nothing. */
+/** No call ever throws, whatever its numbers are and whatever was called ahead of it. */
 final class WildTest {
     private static final int RUNS = 400;
     private static final int CALLS = 512;
